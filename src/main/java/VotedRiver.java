@@ -1553,24 +1553,23 @@ public final class VotedRiver {
                     all += heads[node];
                 }
             }
-            int count = 0;
-            for (int set = 0; set < 1 << others; set++) {
-                int sum = voicesOf(set, others);
-                if (2 * sum <= all && 2 * (sum + heads[town]) > all) {
+            return swings(others, heads[town], all);
+        }
+
+        /** Sets come so that each differs from the one before by one town alone. */
+        private int swings(int others, int own, int all) {
+            int count = 2 * own > all ? 1 : 0;
+            int set = 0;
+            int sum = 0;
+            for (int step = 1; step < 1 << others; step++) {
+                int turned = Integer.numberOfTrailingZeros(step);
+                set ^= 1 << turned;
+                sum += holds(set, turned) ? voices[turned] : -voices[turned];
+                if (2 * sum <= all && 2 * (sum + own) > all) {
                     count++;
                 }
             }
             return count;
-        }
-
-        private int voicesOf(int set, int others) {
-            int sum = 0;
-            for (int i = 0; i < others; i++) {
-                if (holds(set, i)) {
-                    sum += voices[i];
-                }
-            }
-            return sum;
         }
 
         int fewestTowns(Told now, int fork, int arm) {

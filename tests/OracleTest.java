@@ -1,0 +1,263 @@
+import java.util.Random;
+
+/** Runs of calls by chance (each run's seed is its number), each answer beside the plain one's. */
+public final class OracleTest {
+    private static final int RUNS = 240;
+    private static final int CALLS = 250;
+    private static final String[] VOTE_ASKS = {"heads", "dry", "got", "need", "far", "arm", "won", "twice", "day", "fork"};
+    private static final String[] MOVE_ASKS = {"heads", "dry", "got", "need", "dams", "day", "town"};
+
+    private final Random chance;
+    private final VotedRiver river = new VotedRiver();
+    private final Oracle oracle = new Oracle();
+    private final String run;
+    private int nodes = 1;
+
+    private OracleTest(int seed) {
+        chance = new Random(seed);
+        run = "run " + seed + ": ";
+    }
+
+    public static void main(String[] args) {
+        int runs = args.length > 0 ? Integer.parseInt(args[0]) : RUNS;
+        for (int seed = 0; seed < runs; seed++) {
+            OracleTest test = new OracleTest(seed);
+            test.tell();
+            for (int i = 0; i < CALLS; i++) {
+                test.call(test.chance.nextInt(40));
+                if (i == CALLS / 3) {
+                    test.compareAll();
+                }
+            }
+            test.compareAll();
+        }
+        Check.finish();
+    }
+
+    private int pick(int n) {
+        return chance.nextInt(n);
+    }
+
+    /** Mostly a number of a node, at times one that is not there. */
+    private int anyNode() {
+        int odd = pick(30);
+        return odd == 0 ? -1 : odd == 1 ? nodes : odd == 2 ? chance.nextInt() : pick(nodes);
+    }
+
+    private int any(int from, int to) {
+        return pick(12) == 0 ? from - 1 + pick(to - from + 3) : from + pick(to - from + 1);
+    }
+
+    private void tell() {
+        int n = 2 + pick(pick(3) == 0 ? 15 : 7);
+        StringBuilder delta = new StringBuilder();
+        for (int i = 0; i < n; i++) {
+            int sort = i == n - 1 ? 2 : pick(10);
+            if (sort < 4 && sort != 2) {
+                delta.append("fork to ").append(above(i, n)).append(" and ").append(above(i, n));
+                delta.append(pick(2) == 0 ? ";" : " and " + above(i, n) + ";");
+            } else if (sort == 2) {
+                delta.append("sea;");
+            } else {
+                delta.append("town ").append(pick(60)).append(" needs ").append(1 + pick(40));
+                delta.append(" to ").append(above(i, n)).append(";");
+            }
+        }
+        if (delta.length() < 400) {
+            tellBoth(0, delta.toString());
+        }
+        nodes = Math.max(1, oracle.look(0));
+    }
+
+    private int above(int node, int n) {
+        int some = node + 1 + pick(Math.min(4, n - node - 1));
+        return pick(60) == 0 ? pick(18) : some;
+    }
+
+    private void tellBoth(int k, String text) {
+        String cut = pick(25) == 0 ? spoilt(text) : text;
+        Check.feed(river, cut);
+        oracle.tape(cut);
+        due("text(" + k + ") of «" + cut + "»", river.text(k), oracle.text(k));
+        due("fault(0) of «" + cut + "»", river.fault(0), oracle.fault(0));
+        due("fault(1) of «" + cut + "»", river.fault(1), oracle.fault(1));
+    }
+
+    private String spoilt(String text) {
+        if (text.isEmpty()) {
+            return text;
+        }
+        int at = pick(text.length());
+        String signs = "; +-*/()<=>.9aA0\n";
+        String sign = "" + signs.charAt(pick(signs.length()));
+        return text.substring(0, at) + sign + text.substring(pick(2) == 0 ? at : at + 1);
+    }
+
+    private String law(String word, String[] asks) {
+        StringBuilder law = new StringBuilder();
+        for (int i = pick(4); i > 0; i--) {
+            law.append(word).append(' ').append(sum(asks));
+            law.append(pick(3) == 0 ? ";" : " when " + choice(asks, 3) + ";");
+        }
+        return law.length() <= 390 ? law.toString() : "";
+    }
+
+    private String sum(String[] asks) {
+        String[] signs = {"+", "-", "*", " * ", "+", "-"};
+        StringBuilder sum = new StringBuilder(unit(asks));
+        for (int i = pick(4); i > 0; i--) {
+            sum.append(pick(6) == 0 ? "/" + pick(12) : signs[pick(6)] + unit(asks));
+        }
+        return sum.toString();
+    }
+
+    private String unit(String[] asks) {
+        return pick(3) == 0 ? "" + pick(pick(6) == 0 ? 12000 : 30) : asks[pick(asks.length)];
+    }
+
+    private String choice(String[] asks, int depth) {
+        int kind = depth == 0 ? 5 : pick(8);
+        switch (kind) {
+            case 0:
+                return "not " + choice(asks, depth - 1);
+            case 1:
+                return "(" + choice(asks, depth - 1) + ")";
+            case 2:
+                return choice(asks, depth - 1) + " and " + choice(asks, depth - 1);
+            case 3:
+                return choice(asks, depth - 1) + " or " + choice(asks, depth - 1);
+            default:
+                return sum(asks) + "<=>".charAt(pick(3)) + sum(asks);
+        }
+    }
+
+    private void due(String call, long got, long want) {
+        Check.due(run + call, got, want);
+    }
+
+    private void due(String call, boolean got, boolean want) {
+        Check.due(run + call, got, want);
+    }
+
+    private void call(int kind) {
+        if (kind < 12) {
+            change(kind);
+        } else if (kind < 20) {
+            days();
+        } else {
+            ask();
+        }
+    }
+
+    private void days() {
+        int n = pick(6) == 0 ? any(1, 100) : 1 + pick(4);
+        due("days(" + n + ")", river.days(n), oracle.days(n));
+    }
+
+    private void change(int kind) {
+        int a = anyNode();
+        int b = any(0, 3);
+        int c = any(0, 3);
+        switch (kind) {
+            case 0:
+                due("state(" + a + ")", river.state(a), oracle.state(a));
+                break;
+            case 1: {
+                int v = pick(3) == 0 ? any(0, 1000) : pick(300);
+                due("set(" + b + ", " + v + ")", river.set(b, v), oracle.set(b, v));
+                break;
+            }
+            case 2:
+            case 3: {
+                int v = pick(3) == 0 ? any(0, 9999) : any(0, 60);
+                due("town(" + a + ", " + b + ", " + v + ")", river.town(a, b, v), oracle.town(a, b, v));
+                break;
+            }
+            case 4:
+            case 5: {
+                int v = pick(3) == 0 ? any(0, 999) : any(0, 60);
+                due("buy(" + a + ", " + b + ", " + v + ")", river.buy(a, b, v), oracle.buy(a, b, v));
+                break;
+            }
+            case 6: {
+                int to = anyNode();
+                due("dig(" + a + ", " + b + ", " + to + ")", river.dig(a, b, to), oracle.dig(a, b, to));
+                break;
+            }
+            case 7:
+                tellBoth(1, law("vote", VOTE_ASKS));
+                break;
+            case 8:
+                tellBoth(2, law("move", MOVE_ASKS));
+                break;
+            case 9:
+                due("undo()", river.undo(), oracle.undo());
+                break;
+            case 10:
+                due("image(" + c + ")", river.image(c == 0), oracle.image(c == 0));
+                nodes = oracle.look(0);
+                break;
+            default:
+                if (pick(8) == 0) {
+                    tell();
+                }
+        }
+    }
+
+    private void ask() {
+        int a = anyNode();
+        int b = anyNode();
+        int arm = any(0, 2);
+        int n = any(0, pick(4) == 0 ? 100 : 9);
+        int what = any(0, 8);
+        int set = pick(4) == 0 ? chance.nextInt() : pick(1 << nodes) & pick(1 << nodes) & ~1;
+        int f = pick(3) == 0 ? 0 : 10 + pick(nodes);
+        String ab = "(" + a + ", " + b + ")";
+        String aArm = "(" + a + ", " + arm + ")";
+        String aF = "(" + a + ", " + f + ")";
+        due("thirst(" + a + ")", river.thirst(a), oracle.thirst(a));
+        due("ends(" + arm + ")", river.ends(arm), oracle.ends(arm));
+        due("later(" + n + ", " + a + ", " + what + ")", river.later(n, a, what), oracle.later(n, a, what));
+        due("power" + ab, river.power(a, b), oracle.power(a, b));
+        due("fewest" + aArm, river.fewest(a, arm), oracle.fewest(a, arm));
+        due("least" + aF, river.least(a, f), oracle.least(a, f));
+        due("best(" + arm + ")", river.best(arm), oracle.best(arm));
+        if (pick(3) == 0) {
+            due("most(" + set + ")", river.most(set), oracle.most(set));
+            due("mud(" + set + ", " + f + ")", river.mud(set, f), oracle.mud(set, f));
+            int wet = wetNow();
+            due("mud(" + wet + ", " + f + ")", river.mud(wet, f), oracle.mud(wet, f));
+        }
+        due("twice(" + a + ")", river.twice(a), oracle.twice(a));
+        due("votes(" + a + ", " + b + ", " + arm + ")", river.votes(a, b, arm), oracle.votes(a, b, arm));
+        due("rows", river.rows(what, n, arm, f), oracle.rows(what, n, arm, f));
+        due("book" + aArm, river.book(n, arm), oracle.book(n, arm));
+    }
+
+    private int wetNow() {
+        int set = 0;
+        for (int t = 0; t < nodes; t++) {
+            set |= oracle.of(t, 7) == 1 ? 1 << t : 0;
+        }
+        return set;
+    }
+
+    private void compareAll() {
+        for (int what = -1; what < 15; what++) {
+            due("look(" + what + ")", river.look(what), oracle.look(what));
+        }
+        for (int a = -1; a <= 16; a++) {
+            for (int what = -1; what < 26; what++) {
+                due("node(" + a + ", " + what + ")", river.node(a, what), oracle.node(a, what));
+                due("fork(" + a + ", " + what + ")", river.fork(a, what), oracle.fork(a, what));
+                due("of(" + a + ", " + what + ")", river.of(a, what), oracle.of(a, what));
+                due("came(" + a + ", " + what + ")", river.came(a, what), oracle.came(a, what));
+            }
+        }
+        for (int i = -1; i <= 150; i++) {
+            for (int what = -1; what < 5; what++) {
+                due("book(" + i + ", " + what + ")", river.book(i, what), oracle.book(i, what));
+            }
+        }
+    }
+}
