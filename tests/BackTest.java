@@ -180,6 +180,8 @@ public final class BackTest {
         x.set(1, 1);
         x.set(2, 1);
         x.set(3, 1);
+        Check.tell(x, Check.DELTA, "fork to 1 and 1;town 77 needs 1 to 2;sea;");
+        x.days(2);
         Check.tell(x, Check.DELTA, "sea;sea;");
         Check.tell(x, Check.VOTES, "");
         Check.tell(x, Check.MOVES, "move 1;move 1;");

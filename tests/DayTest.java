@@ -41,6 +41,7 @@ public final class DayTest {
     }
 
     private static void state() {
+        Check.due("all heads", Check.river("town 7 needs 1 to 1;town 8 needs 1 to 2;sea;").look(9), 15);
         VotedRiver x = new VotedRiver();
         Check.due("state(5)", x.state(5), 0);
         Check.due("state(-7)", x.state(-7), 5);
@@ -444,6 +445,13 @@ public final class DayTest {
         Check.due("all of an arm", x.fork(0, 10), 27);
         Check.tell(x, Check.VOTES, "vote 5 when 1=2;");
         Check.due("no line fits: heads", x.votes(3, 0, 0), 20);
+        VotedRiver near = Check.river("fork to 1 and 1;fork to 2 and 3;town 5 needs 7 to 3;town 9 needs 7 to 4;sea;");
+        Check.tell(near, Check.VOTES, "vote far;");
+        Check.due("the fewest steps", near.votes(3, 0, 0), 2);
+        near.dig(1, 1, 4);
+        Check.due("dug anew: the only way", near.votes(3, 0, 0), 3);
+        near.dig(1, 0, 4);
+        Check.due("dug anew: no way", near.votes(3, 0, 0), 0);
         VotedRiver flood = Check.river("fork to 1 and 2;town 5 needs 1 to 3;town 5 needs 1 to 3;sea;");
         flood.days(1);
         Check.tell(flood, Check.VOTES, "vote 1+won;");
@@ -541,6 +549,16 @@ public final class DayTest {
         Check.due("of several the least", y.of(1, 0), 15);
         Check.due("not another one", y.of(2, 0), 20);
         Check.due("gone", y.of(3, 0), 45);
+        VotedRiver first = Check.river("town 10 needs 200 to 1;town 50 needs 10 to 2;sea;");
+        first.town(1, 2, 1);
+        first.town(1, 3, 10);
+        first.days(1);
+        Check.due("the first town goes away", first.of(0, 0), 9);
+        Check.due("to who is wet by the store, below its need", first.of(1, 0), 51);
+        VotedRiver top = Check.river("town 10 needs 90 to 1;town 50 needs 20 to 2;sea;");
+        top.days(1);
+        Check.due("to the first town", top.of(0, 0), 15);
+        Check.due("from the second one", top.of(1, 0), 45);
         VotedRiver z = Check.river("town 10 needs 200 to 1;town 50 needs 100 to 2;sea;");
         z.days(3);
         Check.due("without one that is wet they stay", z.of(0, 0), 10);

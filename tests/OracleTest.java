@@ -2,7 +2,7 @@ import java.util.Random;
 
 /** Runs of calls by chance (each run's seed is its number), each answer beside the plain one's. */
 public final class OracleTest {
-    private static final int RUNS = 240;
+    private static final int RUNS = 200;
     private static final int CALLS = 250;
     private static final String[] VOTE_ASKS = {"heads", "dry", "got", "need", "far", "arm", "won", "twice", "day", "fork"};
     private static final String[] MOVE_ASKS = {"heads", "dry", "got", "need", "dams", "day", "town"};
@@ -44,6 +44,17 @@ public final class OracleTest {
         return odd == 0 ? -1 : odd == 1 ? nodes : odd == 2 ? chance.nextInt() : pick(nodes);
     }
 
+    /** Mostly a node of this sort (0 a fork, 1 a town), at times any. */
+    private int some(int sort) {
+        for (int tries = pick(40); tries > 0; tries--) {
+            int node = pick(nodes);
+            if (oracle.node(node, 0) == sort) {
+                return node;
+            }
+        }
+        return anyNode();
+    }
+
     private int any(int from, int to) {
         return pick(12) == 0 ? from - 1 + pick(to - from + 3) : from + pick(to - from + 1);
     }
@@ -52,8 +63,8 @@ public final class OracleTest {
         int n = 2 + pick(pick(3) == 0 ? 15 : 7);
         StringBuilder delta = new StringBuilder();
         for (int i = 0; i < n; i++) {
-            int sort = i == n - 1 ? 2 : pick(10);
-            if (sort < 4 && sort != 2) {
+            int sort = i == n - 1 ? 2 : i == 0 ? pick(5) : pick(10);
+            if (sort < 5 && sort != 2) {
                 delta.append("fork to ").append(above(i, n)).append(" and ").append(above(i, n));
                 delta.append(pick(2) == 0 ? ";" : " and " + above(i, n) + ";");
             } else if (sort == 2) {
@@ -71,7 +82,7 @@ public final class OracleTest {
 
     private int above(int node, int n) {
         int some = node + 1 + pick(Math.min(4, n - node - 1));
-        return pick(60) == 0 ? pick(18) : some;
+        return pick(150) == 0 ? pick(18) : some;
     }
 
     private void tellBoth(int k, String text) {
@@ -155,33 +166,34 @@ public final class OracleTest {
     }
 
     private void change(int kind) {
-        int a = anyNode();
-        int b = any(0, 3);
-        int c = any(0, 3);
+        int fork = some(0);
+        int town = some(1);
+        int arm = any(0, 2);
+        int what = any(0, 3);
         switch (kind) {
             case 0:
-                due("state(" + a + ")", river.state(a), oracle.state(a));
+                due("state(" + what + ")", river.state(what), oracle.state(what));
                 break;
             case 1: {
                 int v = pick(3) == 0 ? any(0, 1000) : pick(300);
-                due("set(" + b + ", " + v + ")", river.set(b, v), oracle.set(b, v));
+                due("set(" + what + ", " + v + ")", river.set(what, v), oracle.set(what, v));
                 break;
             }
             case 2:
             case 3: {
                 int v = pick(3) == 0 ? any(0, 9999) : any(0, 60);
-                due("town(" + a + ", " + b + ", " + v + ")", river.town(a, b, v), oracle.town(a, b, v));
+                due("town(" + town + ", " + what + ", " + v + ")", river.town(town, what, v), oracle.town(town, what, v));
                 break;
             }
             case 4:
             case 5: {
                 int v = pick(3) == 0 ? any(0, 999) : any(0, 60);
-                due("buy(" + a + ", " + b + ", " + v + ")", river.buy(a, b, v), oracle.buy(a, b, v));
+                due("buy(" + fork + ", " + arm + ", " + v + ")", river.buy(fork, arm, v), oracle.buy(fork, arm, v));
                 break;
             }
             case 6: {
                 int to = anyNode();
-                due("dig(" + a + ", " + b + ", " + to + ")", river.dig(a, b, to), oracle.dig(a, b, to));
+                due("dig(" + fork + ", " + arm + ", " + to + ")", river.dig(fork, arm, to), oracle.dig(fork, arm, to));
                 break;
             }
             case 7:
@@ -194,7 +206,7 @@ public final class OracleTest {
                 due("undo()", river.undo(), oracle.undo());
                 break;
             case 10:
-                due("image(" + c + ")", river.image(c == 0), oracle.image(c == 0));
+                due("image(" + what + ")", river.image(what == 0), oracle.image(what == 0));
                 nodes = oracle.look(0);
                 break;
             default:
@@ -205,33 +217,42 @@ public final class OracleTest {
     }
 
     private void ask() {
-        int a = anyNode();
-        int b = anyNode();
+        int fork = some(0);
+        int town = some(1);
         int arm = any(0, 2);
         int n = any(0, pick(4) == 0 ? 100 : 9);
         int what = any(0, 8);
-        int set = pick(4) == 0 ? chance.nextInt() : pick(1 << nodes) & pick(1 << nodes) & ~1;
+        int set = pick(4) == 0 ? chance.nextInt() : towns() & chance.nextInt();
         int f = pick(3) == 0 ? 0 : 10 + pick(nodes);
-        String ab = "(" + a + ", " + b + ")";
-        String aArm = "(" + a + ", " + arm + ")";
-        String aF = "(" + a + ", " + f + ")";
-        due("thirst(" + a + ")", river.thirst(a), oracle.thirst(a));
+        String at = "(" + fork + ", " + town + ")";
+        String forkArm = "(" + fork + ", " + arm + ")";
+        String townF = "(" + town + ", " + f + ")";
+        due("thirst(" + town + ")", river.thirst(town), oracle.thirst(town));
         due("ends(" + arm + ")", river.ends(arm), oracle.ends(arm));
-        due("later(" + n + ", " + a + ", " + what + ")", river.later(n, a, what), oracle.later(n, a, what));
-        due("power" + ab, river.power(a, b), oracle.power(a, b));
-        due("fewest" + aArm, river.fewest(a, arm), oracle.fewest(a, arm));
-        due("least" + aF, river.least(a, f), oracle.least(a, f));
-        due("best(" + arm + ")", river.best(arm), oracle.best(arm));
+        due("later(" + n + ", " + town + ", " + what + ")", river.later(n, town, what), oracle.later(n, town, what));
+        due("power" + at, river.power(fork, town), oracle.power(fork, town));
+        due("fewest" + forkArm, river.fewest(fork, arm), oracle.fewest(fork, arm));
+        due("least" + townF, river.least(town, f), oracle.least(town, f));
+        due("best(" + what / 2 + ")", river.best(what / 2), oracle.best(what / 2));
         if (pick(3) == 0) {
             due("most(" + set + ")", river.most(set), oracle.most(set));
             due("mud(" + set + ", " + f + ")", river.mud(set, f), oracle.mud(set, f));
             int wet = wetNow();
             due("mud(" + wet + ", " + f + ")", river.mud(wet, f), oracle.mud(wet, f));
         }
-        due("twice(" + a + ")", river.twice(a), oracle.twice(a));
-        due("votes(" + a + ", " + b + ", " + arm + ")", river.votes(a, b, arm), oracle.votes(a, b, arm));
+        due("twice(" + fork + ")", river.twice(fork), oracle.twice(fork));
+        due("votes" + at, river.votes(town, fork, arm), oracle.votes(town, fork, arm));
+        due("of" + at, river.of(town, what), oracle.of(town, what));
         due("rows", river.rows(what, n, arm, f), oracle.rows(what, n, arm, f));
-        due("book" + aArm, river.book(n, arm), oracle.book(n, arm));
+        due("book" + forkArm, river.book(n, arm), oracle.book(n, arm));
+    }
+
+    private int towns() {
+        int set = 0;
+        for (int t = 0; t < nodes; t++) {
+            set |= oracle.node(t, 0) == 1 ? 1 << t : 0;
+        }
+        return set;
     }
 
     private int wetNow() {

@@ -89,7 +89,13 @@ public final class TextTest {
     private static void wrongSignsInADelta() {
         Check.fault(DELTA, "seas;", 1, 0);
         Check.fault(DELTA, "Sea;", 1, 0);
-        Check.fault(DELTA, "sea.", 1, 3);
+        for (String letter : new String[] {"a", "z", "A", "Z", "m"}) {
+            Check.fault(DELTA, "sea" + letter + ";", 1, 0);
+            Check.fault(DELTA, "sea;" + letter + "sea;", 1, 4);
+        }
+        for (String none : new String[] {"@", "[", "`", "{", ".", "!", "/", ":", "\0", "\177", "\344", "\377"}) {
+            Check.fault(DELTA, "sea" + none + ";", 1, 3);
+        }
         Check.fault(DELTA, "sea\t;", 1, 3);
         Check.fault(DELTA, "sea\r;", 1, 3);
         Check.fault(DELTA, "sea;;", 1, 4);
@@ -192,6 +198,7 @@ public final class TextTest {
         Check.fault(VOTES, "vote 1 when 1<=1;", 1, 14);
         Check.fault(VOTES, "vote 1 when 1=1 when 1=1;", 1, 16);
         Check.fault(VOTES, "vote headsdry;", 1, 5);
+        Check.fault(VOTES, "vote Heads;", 1, 5);
         Check.fault(VOTES, "vote 1!;", 1, 6);
     }
 

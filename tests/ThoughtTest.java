@@ -41,7 +41,11 @@ public final class ThoughtTest {
         x.buy(0, 1, 11);
         Check.due("what is bought counts", x.later(2, 2, 7), 1);
         x.set(2, 1000);
-        Check.due("no draws", x.later(1, 1, 4), 100);
+        Check.due("no drought", x.later(1, 1, 4), 100);
+        x.set(2, 0);
+        x.set(3, 1000);
+        Check.due("no spate", x.later(1, 1, 4), 100);
+        Check.due("thirst without draws", x.thirst(1), 2);
         Check.due("the state stays", x.look(5), 0);
     }
 
@@ -84,6 +88,13 @@ public final class ThoughtTest {
         Check.due("from now", y.ends(0), 49);
         y.buy(0, 0, 1);
         Check.due("what is bought is told of a fork", y.ends(1), 1);
+        VotedRiver last = Check.river("town 5 needs 101 to 1;sea;");
+        last.town(0, 2, 3);
+        last.town(0, 3, 100);
+        Check.due("the 200th day is as the one before", last.ends(0), 199);
+        Check.due("a round of one", last.ends(1), 1);
+        last.town(0, 3, 101);
+        Check.due("the 201st is too late", last.ends(0), NONE);
         VotedRiver z = Check.river("fork to 1 and 2;town 999 needs 60 to 3;town 999 needs 999 to 3;sea;");
         Check.tell(z, Check.MOVES, "move 1;");
         Check.due("not by then", z.ends(0), NONE);
@@ -151,6 +162,9 @@ public final class ThoughtTest {
         Check.due("as many are not more there", x.fewest(0, 1), NONE);
         x.town(4, 0, 36);
         Check.due("one of one", x.fewest(0, 1), 1);
+        VotedRiver y = Check.river("fork to 1 and 2;town 1 needs 1 to 2;sea;");
+        Check.due("one head against none", y.fewest(0, 0), 1);
+        Check.due("none against one head", y.fewest(0, 1), NONE);
         x.buy(0, 0, 500);
         Check.due("bought is not asked", x.fewest(0, 1), 1);
         Check.due("no such arm", x.fewest(0, 2), NONE);
@@ -249,6 +263,8 @@ public final class ThoughtTest {
         Check.due("best(-1)", x.best(-1), NONE);
         Check.due("another arm's trickle is not needed", x.best(1), 0);
         Check.due("the node stays", x.node(0, 10), 3);
+        VotedRiver top = Check.river("town 40 needs 50 to 1;fork to 3 and 3;town 7 needs 50 to 3;sea;");
+        Check.due("the first town's heads too", top.best(3), 47);
         VotedRiver y = Check.river("fork to 1 and 1;fork to 3 and 3;town 7 needs 50 to 3;sea;");
         Check.due("of several the first fork", y.best(0), 0);
         Check.due("its node", y.best(2), 2);
@@ -260,6 +276,7 @@ public final class ThoughtTest {
         Check.due("the second", x.most(4), 70);
         Check.due("both", x.most(6), 100);
         Check.due("none", x.most(0), 0);
+        Check.due("the first town's needs too", Check.river("town 9 needs 33 to 1;sea;").most(1), 33);
         x.set(1, 30);
         Check.due("with a trickle", x.most(6), 100);
         Check.due("the first with a trickle", x.most(2), 60);
@@ -369,7 +386,10 @@ public final class ThoughtTest {
         Check.due("100 days", x.rows(50, 30, 20, 0), NONE);
         Check.due("no days", x.rows(0, 0, 0, 0), NONE);
         Check.due("one day", x.rows(0, 1, 0, 0), 1);
-        Check.due("below 0", x.rows(-1, 2, 3, 0), NONE);
+        Check.due("the first below 0", x.rows(-1, 2, 3, 0), NONE);
+        Check.due("the second below 0", x.rows(2, -1, 3, 0), NONE);
+        Check.due("the third below 0", x.rows(2, 3, -1, 0), NONE);
+        Check.due("one above 99, one below 0", x.rows(100, -50, 3, 0), NONE);
         Check.due("above 99", x.rows(0, 100, 0, 0), NONE);
         Check.due("wrapping", x.rows(Integer.MAX_VALUE, Integer.MAX_VALUE, 3, 0), NONE);
         Check.due("wrapping below", x.rows(Integer.MIN_VALUE, Integer.MIN_VALUE, 3, 0), NONE);
