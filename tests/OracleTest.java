@@ -223,7 +223,7 @@ public final class OracleTest {
         int n = any(0, pick(4) == 0 ? 100 : 9);
         int what = any(0, 8);
         int set = pick(4) == 0 ? chance.nextInt() : towns() & chance.nextInt();
-        int f = pick(3) == 0 ? 0 : 10 + pick(nodes);
+        int f = pick(3) == 0 ? 0 : 10 + (pick(4) == 0 ? pick(17) : some(0));
         String at = "(" + fork + ", " + town + ")";
         String forkArm = "(" + fork + ", " + arm + ")";
         String townF = "(" + town + ", " + f + ")";

@@ -7,6 +7,7 @@ public final class ThoughtTest {
     public static void main(String[] args) {
         later();
         laterIsAsDays();
+        behindTheLastDay();
         ends();
         thirst();
         power();
@@ -66,6 +67,22 @@ public final class ThoughtTest {
             }
             x.days(1);
         }
+    }
+
+    /** Days end at 9999, thoughts go on behind it: a reading that NOTES.md tells. */
+    private static void behindTheLastDay() {
+        VotedRiver x = Check.river("fork to 1 and 2;town 30 needs 60 to 3;town 10 needs 40 to 3;sea;");
+        Check.tell(x, Check.MOVES, "move 0 when day<9999;move 3;");
+        for (int i = 0; i < 99; i++) {
+            x.days(100);
+        }
+        Check.due("to the last day", x.days(99), 0);
+        Check.due("no day behind it", x.days(1), NONE);
+        Check.due("as it is", x.later(0, 2, 0), 10);
+        Check.due("in thought one more day", x.later(1, 2, 0), 7);
+        Check.due("and another one", x.later(2, 2, 0), 4);
+        Check.due("until nobody is there", x.ends(0), 4);
+        Check.due("the day stays", x.look(1), 9999);
     }
 
     private static void ends() {
@@ -197,8 +214,7 @@ public final class ThoughtTest {
         x.set(0, 99);
         Check.due("nobody votes: open stays", x.least(1, 0), 0);
         Check.due("nobody votes: one opens another arm", x.least(2, 0), 1);
-        Check.due("a town is none of its forks", x.least(2, 11), 0);
-        for (int what : new int[] {-1, 1, 9, 26, Integer.MIN_VALUE, Integer.MAX_VALUE}) {
+        for (int what : new int[] {-1, 1, 9, 26, Integer.MIN_VALUE, Integer.MIN_VALUE + 9, Integer.MAX_VALUE}) {
             Check.due("least(2, " + what + ")", x.least(2, what), NONE);
         }
         Check.due("a fork", x.least(0, 0), NONE);
@@ -210,6 +226,27 @@ public final class ThoughtTest {
         Check.due("a way without forks", first.least(0, 0), 0);
         Check.due("nothing goes on", first.least(2, 0), NONE);
         Check.due("not of the way", first.least(0, 11), 0);
+        leastAtNoFork();
+    }
+
+    /** 10 + f asks a fork alone: of any other node it is another what, though there is a way. */
+    private static void leastAtNoFork() {
+        VotedRiver x = Check.river(TWO);
+        Check.due("there is a way", x.least(2, 0), 11);
+        Check.due("its fork", x.least(2, 10), 11);
+        Check.due("a town", x.least(2, 11), NONE);
+        Check.due("the town that is asked", x.least(2, 12), NONE);
+        Check.due("a sea", x.least(2, 13), NONE);
+        for (int node = 4; node < 16; node++) {
+            Check.due("node " + node + " is not there", x.least(2, 10 + node), NONE);
+        }
+        Check.due("a fork where none need be bought", x.least(1, 10), 0);
+        VotedRiver y = Check.river("town 5 needs 100 to 1;fork to 2 and 2;fork to 3 and 3;sea;");
+        Check.due("a town on the way without forks", y.least(0, 10), NONE);
+        Check.due("a fork behind the town", y.least(0, 11), 0);
+        Check.due("another fork behind the town", y.least(0, 12), 0);
+        y.set(0, 99);
+        Check.due("a fork, but no way", y.least(0, 11), NONE);
     }
 
     private static void leastByWays() {

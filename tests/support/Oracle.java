@@ -837,7 +837,7 @@ final class Oracle {
     private int[] leastAt;
 
     int least(int town, int what) {
-        if (at(town, 1) == null || what != 0 && (what < 10 || what > 25)) {
+        if (at(town, 1) == null || what != 0 && (what < 10 || at(what - 10, 0) == null)) {
             return NONE;
         }
         leastAll = NONE;

@@ -334,8 +334,7 @@ public final class VotedRiver {
     }
 
     public int least(int town, int what) {
-        // A number behind 10 that is of no fork answers 0, as a fork that is not of the way.
-        if (!now.delta.isTown(town) || what != 0 && !within(what, 10, 10 + NODES - 1)) {
+        if (!now.delta.isTown(town) || what != 0 && !asksFork(what)) {
             return NONE;
         }
         int all = counsel.leastBought(now, town);
@@ -343,6 +342,11 @@ public final class VotedRiver {
             return all;
         }
         return counsel.leastAt[what - 10];
+    }
+
+    /** Whether 10 + f is asked, and f is a fork: 10 + another node is no such what. */
+    private boolean asksFork(int what) {
+        return what >= 10 && now.delta.isFork(what - 10);
     }
 
     public int best(int what) {
@@ -357,7 +361,7 @@ public final class VotedRiver {
     }
 
     public int mud(int set, int what) {
-        if (!counsel.canWeigh(now, set) || what != 0 && !within(what, 10, 10 + NODES - 1)) {
+        if (!counsel.canWeigh(now, set) || what != 0 && !asksFork(what)) {
             return NONE;
         }
         int ways = counsel.countWays(now, set);
