@@ -2,8 +2,12 @@ import java.util.Random;
 
 /** Runs of calls by chance (each run's seed is its number), each answer beside the plain one's. */
 public final class OracleTest {
-    private static final int RUNS = 200;
-    private static final int CALLS = 250;
+    private static final int RUNS = 600;
+    // An object is used for at most 512 calls: the last hundred or so look at all that there is.
+    private static final int CALLS = 385;
+    private static final int LOOKS = 85;
+    private static final int ASKED_AT_ONCE = 4;
+    private static final int QUESTIONS = 17;
     private static final String[] VOTE_ASKS = {"heads", "dry", "got", "need", "far", "arm", "won", "twice", "day", "fork"};
     private static final String[] MOVE_ASKS = {"heads", "dry", "got", "need", "dams", "day", "town"};
 
@@ -12,6 +16,7 @@ public final class OracleTest {
     private final Oracle oracle = new Oracle();
     private final String run;
     private int nodes = 1;
+    private int calls = 0;
 
     private OracleTest(int seed) {
         chance = new Random(seed);
@@ -23,13 +28,11 @@ public final class OracleTest {
         for (int seed = 0; seed < runs; seed++) {
             OracleTest test = new OracleTest(seed);
             test.tell();
-            for (int i = 0; i < CALLS; i++) {
+            while (test.calls < CALLS) {
                 test.call(test.chance.nextInt(40));
-                if (i == CALLS / 3) {
-                    test.compareAll();
-                }
             }
-            test.compareAll();
+            test.lookAround();
+            Check.due("calls of " + test.run + "512 at most", test.calls <= 512, true);
         }
         Check.finish();
     }
@@ -88,6 +91,7 @@ public final class OracleTest {
     private void tellBoth(int k, String text) {
         String cut = pick(25) == 0 ? spoilt(text) : text;
         Check.feed(river, cut);
+        calls += (cut.length() + 19) / 20 + 1;
         oracle.tape(cut);
         due("text(" + k + ") of «" + cut + "»", river.text(k), oracle.text(k));
         due("fault(0) of «" + cut + "»", river.fault(0), oracle.fault(0));
@@ -142,11 +146,14 @@ public final class OracleTest {
         }
     }
 
+    /** Each due answer is one call. */
     private void due(String call, long got, long want) {
+        calls++;
         Check.due(run + call, got, want);
     }
 
     private void due(String call, boolean got, boolean want) {
+        calls++;
         Check.due(run + call, got, want);
     }
 
@@ -156,7 +163,9 @@ public final class OracleTest {
         } else if (kind < 20) {
             days();
         } else {
-            ask();
+            for (int i = 0; i < ASKED_AT_ONCE; i++) {
+                ask(pick(QUESTIONS));
+            }
         }
     }
 
@@ -216,7 +225,7 @@ public final class OracleTest {
         }
     }
 
-    private void ask() {
+    private void ask(int question) {
         int fork = some(0);
         int town = some(1);
         int arm = any(0, 2);
@@ -224,27 +233,67 @@ public final class OracleTest {
         int what = any(0, 8);
         int set = pick(4) == 0 ? chance.nextInt() : towns() & chance.nextInt();
         int f = pick(3) == 0 ? 0 : 10 + (pick(4) == 0 ? pick(17) : some(0));
-        String at = "(" + fork + ", " + town + ")";
-        String forkArm = "(" + fork + ", " + arm + ")";
-        String townF = "(" + town + ", " + f + ")";
-        due("thirst(" + town + ")", river.thirst(town), oracle.thirst(town));
-        due("ends(" + arm + ")", river.ends(arm), oracle.ends(arm));
-        due("later(" + n + ", " + town + ", " + what + ")", river.later(n, town, what), oracle.later(n, town, what));
-        due("power" + at, river.power(fork, town), oracle.power(fork, town));
-        due("fewest" + forkArm, river.fewest(fork, arm), oracle.fewest(fork, arm));
-        due("least" + townF, river.least(town, f), oracle.least(town, f));
-        due("best(" + what / 2 + ")", river.best(what / 2), oracle.best(what / 2));
-        if (pick(3) == 0) {
-            due("most(" + set + ")", river.most(set), oracle.most(set));
-            due("mud(" + set + ", " + f + ")", river.mud(set, f), oracle.mud(set, f));
-            int wet = wetNow();
-            due("mud(" + wet + ", " + f + ")", river.mud(wet, f), oracle.mud(wet, f));
+        if (question < 8) {
+            askThought(question, fork, town, arm, n, what, f);
+        } else {
+            askCounsel(question, fork, town, arm, n, what, f, set);
         }
-        due("twice(" + fork + ")", river.twice(fork), oracle.twice(fork));
-        due("votes" + at, river.votes(town, fork, arm), oracle.votes(town, fork, arm));
-        due("of" + at, river.of(town, what), oracle.of(town, what));
-        due("rows", river.rows(what, n, arm, f), oracle.rows(what, n, arm, f));
-        due("book" + forkArm, river.book(n, arm), oracle.book(n, arm));
+    }
+
+    private void askThought(int question, int fork, int town, int arm, int n, int what, int f) {
+        switch (question) {
+            case 0:
+                due("thirst(" + town + ")", river.thirst(town), oracle.thirst(town));
+                break;
+            case 1:
+                due("ends(" + arm + ")", river.ends(arm), oracle.ends(arm));
+                break;
+            case 2:
+            case 3:
+                due("later(" + n + ", " + town + ", " + what + ")", river.later(n, town, what), oracle.later(n, town, what));
+                break;
+            case 4:
+                due("votes(" + town + ", " + fork + ", " + arm + ")", river.votes(town, fork, arm), oracle.votes(town, fork, arm));
+                break;
+            case 5:
+                due("of(" + town + ", " + what + ")", river.of(town, what), oracle.of(town, what));
+                break;
+            case 6:
+                due("rows", river.rows(what, n, arm, f), oracle.rows(what, n, arm, f));
+                break;
+            default:
+                due("book(" + n + ", " + arm + ")", river.book(n, arm), oracle.book(n, arm));
+        }
+    }
+
+    private void askCounsel(int question, int fork, int town, int arm, int n, int what, int f, int set) {
+        switch (question) {
+            case 8:
+                due("power(" + fork + ", " + town + ")", river.power(fork, town), oracle.power(fork, town));
+                break;
+            case 9:
+                due("fewest(" + fork + ", " + arm + ")", river.fewest(fork, arm), oracle.fewest(fork, arm));
+                break;
+            case 10:
+            case 11:
+                due("least(" + town + ", " + f + ")", river.least(town, f), oracle.least(town, f));
+                break;
+            case 12:
+                due("best(" + what / 2 + ")", river.best(what / 2), oracle.best(what / 2));
+                break;
+            case 13:
+                due("most(" + set + ")", river.most(set), oracle.most(set));
+                break;
+            case 14:
+                due("mud(" + set + ", " + f + ")", river.mud(set, f), oracle.mud(set, f));
+                break;
+            case 15:
+                set = wetNow();
+                due("mud(" + set + ", " + f + ")", river.mud(set, f), oracle.mud(set, f));
+                break;
+            default:
+                due("twice(" + fork + ")", river.twice(fork), oracle.twice(fork));
+        }
     }
 
     private int towns() {
@@ -263,22 +312,22 @@ public final class OracleTest {
         return set;
     }
 
-    private void compareAll() {
+    private void lookAround() {
         for (int what = -1; what < 15; what++) {
             due("look(" + what + ")", river.look(what), oracle.look(what));
         }
-        for (int a = -1; a <= 16; a++) {
-            for (int what = -1; what < 26; what++) {
-                due("node(" + a + ", " + what + ")", river.node(a, what), oracle.node(a, what));
-                due("fork(" + a + ", " + what + ")", river.fork(a, what), oracle.fork(a, what));
-                due("of(" + a + ", " + what + ")", river.of(a, what), oracle.of(a, what));
-                due("came(" + a + ", " + what + ")", river.came(a, what), oracle.came(a, what));
-            }
-        }
-        for (int i = -1; i <= 150; i++) {
-            for (int what = -1; what < 5; what++) {
-                due("book(" + i + ", " + what + ")", river.book(i, what), oracle.book(i, what));
-            }
+        for (int i = 0; i < LOOKS / 5; i++) {
+            int a = anyNode();
+            int to = anyNode();
+            int what = any(0, 25);
+            int item = any(0, 8);
+            due("node(" + a + ", " + what + ")", river.node(a, what), oracle.node(a, what));
+            due("of(" + to + ", " + item + ")", river.of(to, item), oracle.of(to, item));
+            due("came(" + a + ", " + to + ")", river.came(a, to), oracle.came(a, to));
+            a = some(0);
+            due("fork(" + a + ", " + what + ")", river.fork(a, what), oracle.fork(a, what));
+            int line = any(0, Math.max(1, oracle.look(2)) - 1);
+            due("book(" + line + ", " + item / 2 + ")", river.book(line, item / 2), oracle.book(line, item / 2));
         }
     }
 }

@@ -55,13 +55,13 @@ public final class ThoughtTest {
                 + "town 21 needs 33 to 4;fork to 5 and 6;town 9 needs 5 to 6;sea;");
         Check.tell(x, Check.VOTES, "vote heads+dry*3-won when twice=0;vote got+1;");
         x.set(1, 7);
-        int[][] seen = new int[41][8];
-        for (int n = 0; n <= 40; n++) {
+        int[][] seen = new int[25][8];
+        for (int n = 0; n <= 24; n++) {
             for (int what = 0; what < 8; what++) {
                 seen[n][what] = x.later(n, 3, what);
             }
         }
-        for (int n = 0; n <= 40; n++) {
+        for (int n = 0; n <= 24; n++) {
             for (int what = 0; what < 8; what++) {
                 Check.due("of(3, " + what + ") on day " + n, x.of(3, what), seen[n][what]);
             }

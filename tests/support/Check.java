@@ -6,8 +6,13 @@ final class Check {
     static final int VOTES = 1;
     static final int MOVES = 2;
 
+    static final int NONE = VotedRiver.NONE;
+    static final int LOWEST = Integer.MIN_VALUE;
+    static final int HIGHEST = Integer.MAX_VALUE;
+
     private static int asked = 0;
     private static int wrong = 0;
+    private static String held = "";
 
     private Check() {
     }
@@ -16,8 +21,13 @@ final class Check {
         asked++;
         if (got != want) {
             wrong++;
-            System.out.println(call + " answered " + got + ", due is " + want);
+            System.out.println(held + call + " answered " + got + ", due is " + want);
         }
+    }
+
+    /** From here on tests hold this sentence of this promise or term. */
+    static void holds(String where, String sentence) {
+        held = where + " «" + sentence + "»: ";
     }
 
     static void due(String call, boolean got, boolean want) {
