@@ -17,6 +17,7 @@ public final class EdgeBackTest {
         imageMoreThanOnce();
         imageWithoutTheRest();
         imageOfAll();
+        imageFromWhichAllGoesOn();
         imageStays();
         lookAtAnotherWhat();
         lookAtTheMost();
@@ -284,6 +285,23 @@ public final class EdgeBackTest {
         before.stays("going back");
         Check.due("votes", x.votes(1, 0, 0), 3);
         Check.due("bought", x.fork(0, 21), 12);
+    }
+
+    private static void imageFromWhichAllGoesOn() {
+        Check.holds("Term 4", "THE IMAGE: all that is and was told .. as it was when it was taken (all goes on from it)");
+        VotedRiver x = Check.river(PAIR);
+        x.set(2, 300);
+        x.set(3, 300);
+        x.days(3);
+        x.image(true);
+        x.days(5);
+        Sight then = Sight.of(x);
+        x.image(false);
+        x.days(5);
+        then.stays("the same days anew");
+        x.image(false);
+        x.days(4);
+        Check.due("the days behind it can be undone", x.look(8), 4);
     }
 
     private static void imageStays() {

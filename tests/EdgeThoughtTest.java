@@ -125,6 +125,20 @@ public final class EdgeThoughtTest {
         x.rows(1, 2, 3, 4);
         before.stays("thoughts");
         Check.due("three days can be undone", x.look(8), 3);
+        x.later(101, 1, 0);
+        x.later(-1, 1, 0);
+        x.later(5, 1, 8);
+        x.ends(2);
+        x.thirst(0);
+        x.power(0, 3);
+        x.fewest(0, 2);
+        x.least(2, 11);
+        x.best(4);
+        x.most(1);
+        x.mud(2, 11);
+        x.twice(1);
+        x.rows(0, 0, 0, 0);
+        before.stays("thoughts that can't be");
     }
 
     private static void endsFromNow() {

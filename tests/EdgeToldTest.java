@@ -23,6 +23,7 @@ public final class EdgeToldTest {
         boughtAnew();
         buyForNoArm();
         digTo();
+        digFromNowOn();
         digNoArm();
         digRefusedChangesNothing();
         Check.finish();
@@ -261,6 +262,19 @@ public final class EdgeToldTest {
         Check.due("the last fork to the last node", full.dig(14, 1, 15), true);
         Check.due("the last fork to none", full.dig(14, 1, 16), false);
         Check.due("the last fork to itself", full.dig(14, 1, 14), false);
+    }
+
+    private static void digFromNowOn() {
+        Check.holds("Promise 6", "An ARM goes to another NODE from now on");
+        VotedRiver x = Check.river(SMALL);
+        x.days(1);
+        Check.due("dig", x.dig(0, 0, 4), true);
+        Check.due("what came before stays", x.came(0, 1), 100);
+        Check.due("open stays", x.fork(0, 0), 1);
+        x.days(1);
+        Check.due("the water goes there", x.came(0, 4), 100);
+        Check.due("no longer there", x.came(0, 1), 0);
+        Check.due("nobody behind it votes", x.fork(0, 10), 0);
     }
 
     private static void digNoArm() {
