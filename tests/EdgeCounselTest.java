@@ -297,6 +297,9 @@ public final class EdgeCounselTest {
         x.days(1);
         Check.due("all alike", x.least(3, 0), 1);
         Check.due("at the first fork", x.least(3, 10), 1);
+        VotedRiver y = Check.river("fork to 1 and 3;fork to 3 and 2;town 9 needs 1 to 3;sea;");
+        Check.tell(y, Check.VOTES, "vote heads when fork=1;vote 0;");
+        Check.due("by two forks for nothing", y.least(2, 0), 0);
         x.buy(1, 0, 1);
         x.buy(1, 1, 1);
         Check.due("the second way is the cheaper one", x.least(3, 0), 1);

@@ -17,6 +17,7 @@ public final class EdgeLawTest {
         votesWithoutALine();
         firstLineThatFits();
         sixteenLines();
+        lawToldAnew();
         nobodyHasNoVotes();
         behindAnArm();
         farByTheFewestSteps();
@@ -152,6 +153,17 @@ public final class EdgeLawTest {
         Check.tell(x, MOVES, "move 1 when 1=2;".repeat(15) + "move 9;");
         Check.due("lines of moves", x.look(7), 16);
         Check.due("by the last of them", x.of(1, 8), 9);
+    }
+
+    private static void lawToldAnew() {
+        Check.holds("Promise 9", "The TAPE is TEXT k (nothing stays of the law before)");
+        VotedRiver x = Check.river(PAIR);
+        Check.tell(x, VOTES, "vote 1 when not 1=1;vote 2;vote 3;");
+        Check.due("by the law before", x.votes(1, 0, 0), 2);
+        Check.due("a shorter one", Check.tell(x, VOTES, "vote 1 when 1=2;"), 1);
+        Check.due("no line fits", x.votes(1, 0, 0), 30);
+        Check.due("an empty one", Check.tell(x, VOTES, ""), 0);
+        Check.due("no line", x.votes(1, 0, 0), 30);
     }
 
     private static void nobodyHasNoVotes() {

@@ -15,6 +15,7 @@ public final class EdgeThoughtTest {
         endsOfRounds();
         endsByTheLastDay();
         endsByAllThatIsTold();
+        endsWhereTwoChange();
         endsOfAnotherWhat();
         thirstDays();
         thirstThatIsOver();
@@ -237,6 +238,42 @@ public final class EdgeThoughtTest {
         dams.town(2, 2, 0);
         Check.due("dams change by tens of days: the earlier day", dams.ends(0), 90);
         Check.due("dams change by tens of days: the round", dams.ends(1), 10);
+    }
+
+    /** What changes one against another is not as it was, though their sum be the same. */
+    private static void endsWhereTwoChange() {
+        Check.holds("Promise 19", "all of FORKS and TOWNS that is told is as it was");
+        VotedRiver won = Check.river("fork to 1 and 1;sea;");
+        won.buy(0, 0, 8);
+        Check.due("won against what is bought", won.ends(0), 1);
+        VotedRiver dry = Check.river("town 5 needs 60 to 1;sea;");
+        dry.set(0, 50);
+        dry.days(1);
+        dry.set(0, 49);
+        Check.due("dry against got", dry.ends(0), 98);
+        VotedRiver wet = Check.river("town 5 needs 1 to 1;sea;");
+        wet.set(0, 0);
+        wet.town(0, 2, 1);
+        wet.town(0, 3, 1);
+        Check.due("wet against the store", wet.ends(0), 100);
+        VotedRiver store = Check.river(PAIR);
+        Check.tell(store, Check.MOVES, "move 0;");
+        store.set(1, 33);
+        store.days(100);
+        store.town(2, 1, 49);
+        store.town(2, 3, 450);
+        store.days(1);
+        Check.due("defeats against the store", store.ends(0), 126);
+        Check.due("its round", store.ends(1), 10);
+        VotedRiver got = Check.river(PAIR);
+        Check.tell(got, Check.VOTES, "vote heads when need=60;vote 0;");
+        Check.tell(got, Check.MOVES, "move 0;");
+        got.set(1, 32);
+        got.days(100);
+        Check.due("nothing changes", got.ends(0), 0);
+        got.set(1, 33);
+        Check.tell(got, Check.MOVES, "move 1 when heads=20;move 0;");
+        Check.due("heads against got", got.ends(0), 1);
     }
 
     private static void endsOfAnotherWhat() {
