@@ -300,6 +300,11 @@ public final class DayTest {
         Check.due("nobody votes: open", y.book(0, 2), 1);
         Check.due("nobody votes: the most", y.book(0, 3), 0);
         Check.due("nobody votes: won", y.fork(0, 1), 0);
+        y.buy(0, 1, 7);
+        y.days(1);
+        Check.due("what is bought alone: a line", y.look(2), 2);
+        Check.due("what is bought alone: open", y.book(1, 2), 2);
+        Check.due("what is bought alone: the most", y.book(1, 3), 7);
     }
 
     private static void water() {
@@ -563,5 +568,12 @@ public final class DayTest {
         z.days(3);
         Check.due("without one that is wet they stay", z.of(0, 0), 10);
         Check.due("they stay", z.of(1, 0), 50);
+        VotedRiver many = Check.river("town 1 needs 90 to 1;town 1 needs 20 to 2;sea;");
+        many.town(0, 0, 9999);
+        many.town(1, 0, 9999);
+        many.days(1);
+        Check.due("more than are told at once", many.of(0, 0), 10998);
+        Check.due("the others", many.of(1, 0), 9000);
+        Check.due("all of them", many.look(9), 19998);
     }
 }

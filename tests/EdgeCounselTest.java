@@ -27,6 +27,7 @@ public final class EdgeCounselTest {
         leastThatCantBe();
         bestIsMore();
         bestOfSeveral();
+        bestWithTrickles();
         bestThatThereIsNot();
         bestOfAnotherWhat();
         mostIsNeedAtMost();
@@ -403,6 +404,18 @@ public final class EdgeCounselTest {
         bestOf(last, NONE, NONE, NONE, NONE);
     }
 
+    private static void bestWithTrickles() {
+        Check.holds("Term 4", "DIG .. by the next DAY's water (TRICKLE, BASE as told)");
+        VotedRiver x = Check.river("fork to 1 and 2;town 10 needs 10 to 3;town 20 needs 30 to 3;sea;");
+        bestOf(x, 0, 0, 2, 20);
+        x.set(1, 30);
+        bestOf(x, NONE, NONE, NONE, NONE);
+        x.set(1, 29);
+        bestOf(x, 0, 0, 2, 20);
+        x.set(0, 104);
+        bestOf(x, NONE, NONE, NONE, NONE);
+    }
+
     private static void bestThatThereIsNot() {
         Check.holds("Promise 24", "NONE if there is none such");
         bestOf(new VotedRiver(), NONE, NONE, NONE, NONE);
@@ -546,6 +559,9 @@ public final class EdgeCounselTest {
         VotedRiver all = towns(1, 1, 1, 1, 1, 1, 1, 1, 1, 1, 1, 1, 1, 1);
         Check.due("all fourteen", all.twice(0), 0x7ffe);
         Check.due("no towns", Check.river("fork to 1 and 1;sea;").twice(0), 0);
+        VotedRiver forks = Check.river("fork to 1 and 1;fork to 2 and 3;town 5 needs 7 to 3;sea;");
+        Check.due("forks and seas are no towns", forks.twice(0), 4);
+        Check.due("behind one arm of the second fork", forks.twice(1), 0);
     }
 
     private static void twiceOfNoFork() {

@@ -6,6 +6,7 @@ public final class EdgeDayTest {
         flowIsBase();
         drawsWrap();
         drawOnlyIfNeeded();
+        drawsForNothing();
         droughtsAndSpates();
         trickles();
         likeParts();
@@ -94,6 +95,22 @@ public final class EdgeDayTest {
             int due = pair[0] + pair[1] > 0 ? (int) word(7) : 7;
             Check.due("state with drought " + pair[0] + ", spate " + pair[1], x.look(5), due);
         }
+    }
+
+    private static void drawsForNothing() {
+        Check.holds("Term 3", "if DROUGHT or SPATE are above 0, a DRAW of 1000 (each day, whatever BASE is)");
+        VotedRiver x = new VotedRiver();
+        x.state(7);
+        x.set(0, 0);
+        x.set(2, 1000);
+        x.days(1);
+        Check.due("one draw", x.look(5), (int) word(7));
+        x.days(2);
+        Check.due("three draws", x.look(5), (int) word((int) word((int) word(7))));
+        Check.due("nothing came", x.look(3), 0);
+        x.set(2, 0);
+        x.days(1);
+        Check.due("no draw more", x.look(5), (int) word((int) word((int) word(7))));
     }
 
     private static void droughtsAndSpates() {

@@ -18,6 +18,8 @@ public final class EdgeEveningTest {
         nineDams();
         noDefeats();
         defeatsOfSeveralArms();
+        defeatsInAFlood();
+        defeatsByWhatWasVoted();
         defeatsAtTwoForks();
         bookLines();
         bookIsFull();
@@ -26,6 +28,8 @@ public final class EdgeEveningTest {
         movesByTheEvening();
         nobodyIsWet();
         mostOver();
+        overWithoutStore();
+        movesOfAllHeads();
         daysThatCanBe();
         daysToTheLast();
         daysRefused();
@@ -256,6 +260,32 @@ public final class EdgeEveningTest {
         Check.due("no votes, no defeat", x.of(2, 6), 1);
     }
 
+    private static void defeatsInAFlood() {
+        Check.holds("Term 3", "Each TOWN that voted above 0 for some ARMS of it, none of which is OPEN then (a FLOOD of others)");
+        VotedRiver x = Check.river("fork to 1 and 2 and 3;town 5 needs 10 to 4;town 5 needs 10 to 4;town 3 needs 10 to 4;sea;");
+        for (int day = 1; day <= 3; day++) {
+            x.days(1);
+            Check.due("open", x.fork(0, 0), 3);
+            Check.due("the first of the flood", x.of(1, 6), 0);
+            Check.due("the second of the flood", x.of(2, 6), 0);
+            Check.due("the town without water", x.of(3, 6), day);
+        }
+    }
+
+    private static void defeatsByWhatWasVoted() {
+        Check.holds("Term 3", "Each TOWN that voted above 0 (before WON was one more)");
+        VotedRiver x = Check.river(PAIR);
+        Check.tell(x, Check.VOTES, "vote 0 when won > 0; vote heads;");
+        Check.tell(x, Check.MOVES, "move 0;");
+        int[] open = {1, 2, 1, 2};
+        for (int day = 0; day < open.length; day++) {
+            x.days(1);
+            Check.due("open behind day " + day, x.fork(0, 0), open[day]);
+            Check.due("who won yesterday did not vote", x.of(1, 6), 0);
+            Check.due("who lost on the first day alone voted then", x.of(2, 6), 1);
+        }
+    }
+
     private static void defeatsAtTwoForks() {
         Check.holds("Term 3", "FORK by FORK .. DEFEATS one more; the tenth: DEFEATS 0, DAMS one more");
         VotedRiver x = Check.river("fork to 1 and 4;fork to 2 and 3;town 5 needs 1 to 5;town 9 needs 1 to 5;"
@@ -429,6 +459,34 @@ public final class EdgeEveningTest {
         low.days(1);
         Check.due("from node 0", low.of(0, 0), 9);
         Check.due("to node 1", low.of(1, 0), 51);
+    }
+
+    private static void overWithoutStore() {
+        Check.holds("Term 3", "the TOWN that is WET with the most OVER (GOT less NEED; a STORE is not asked)");
+        VotedRiver x = Check.river("town 10 needs 60 to 1;fork to 2 and 3;town 10 needs 20 to 4;town 30 needs 5 to 4;sea;");
+        x.town(2, 2, 1);
+        x.town(2, 3, 50);
+        x.days(1);
+        Check.due("over 40, without a store", x.of(0, 0), 13);
+        Check.due("over 20, with a store of 50", x.of(2, 0), 10);
+        Check.due("dry", x.of(3, 0), 27);
+        Check.due("the store", x.of(2, 3), 50);
+    }
+
+    private static void movesOfAllHeads() {
+        Check.holds("Term 3", "who MOVES goes to the TOWN that is WET (nobody lives there, or here then)");
+        VotedRiver x = Check.river("fork to 1 and 2;town 0 needs 10 to 3;town 20 needs 10 to 3;sea;");
+        Check.tell(x, Check.MOVES, "move heads;");
+        x.days(1);
+        Check.due("to where nobody lives", x.of(1, 0), 20);
+        Check.due("from where nobody lives then", x.of(2, 0), 0);
+        Check.due("it stays dry", x.of(2, 5), 1);
+        Check.due("and defeated", x.of(2, 6), 0);
+        Check.due("open", x.fork(0, 0), 2);
+        x.days(1);
+        Check.due("back again", x.of(2, 0), 20);
+        Check.due("none is left", x.of(1, 0), 0);
+        Check.due("who lives nowhere", x.look(9), 20);
     }
 
     private static void daysThatCanBe() {

@@ -8,6 +8,7 @@ public final class EdgeFaultTest {
         keywordsOfEachText();
         lettersTogether();
         digitsTogether();
+        signsBesideThem();
         signs();
         blanks();
         faultOneAtTheEnd();
@@ -76,6 +77,15 @@ public final class EdgeFaultTest {
         Check.fault(DELTA, "town 1 needs 00001 to 1;sea;", 1, 13);
         Check.fault(DELTA, "town 1 needs 1 to 00001;sea;", 1, 18);
         Check.fault(VOTES, "vote 1/00001;", 1, 7);
+    }
+
+    private static void signsBesideThem() {
+        Check.holds("Term 2", "letters as many as stand together; digits as many as stand together (other signs end them)");
+        for (char sign : new char[] {'`', '{', '@', '[', '_', '/', ':', '.', '#', 223, 233}) {
+            Check.fault(DELTA, "sea" + sign + ";", 1, 3);
+            Check.fault(DELTA, "town 5" + sign + " needs 1 to 1;sea;", 1, 6);
+            Check.fault(DELTA, "fork to 1 and 1" + sign + "sea;", 1, 15);
+        }
     }
 
     private static void signs() {

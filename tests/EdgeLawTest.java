@@ -19,6 +19,8 @@ public final class EdgeLawTest {
         sixteenLines();
         lawToldAnew();
         nobodyHasNoVotes();
+        headsAboveThoseOfAText();
+        eachIsAskedAlone();
         behindAnArm();
         farByTheFewestSteps();
         wonIfOpenAlone();
@@ -91,6 +93,12 @@ public final class EdgeLawTest {
         isSo("3>2", true);
         isSo("0-1<0", true);
         isSo("0>0-1", true);
+        // The one is less the other above the highest int.
+        isSo(TOP + ">0-9999", true);
+        isSo("0-9999<" + TOP, true);
+        isSo("0-9999>" + TOP, false);
+        isSo(TOP + "<0-9999", false);
+        isSo(TOP + "=0-9999", false);
     }
 
     private static void conditions() {
@@ -175,6 +183,54 @@ public final class EdgeLawTest {
         Check.due("by a law", x.votes(1, 0, 0), 0);
         x.town(1, 0, 1);
         Check.due("one head", x.votes(1, 0, 0), 1);
+    }
+
+    private static void headsAboveThoseOfAText() {
+        Check.holds("Term 2", "heads, dry, got, need: the TOWN's (HEADS 0 .. 9999)");
+        VotedRiver x = Check.river(PAIR);
+        x.town(1, 0, 9999);
+        Check.tell(x, VOTES, "vote 7 when heads = 9999; vote 0;");
+        Check.tell(x, MOVES, "move heads - 1;");
+        Check.due("votes", x.votes(1, 0, 0), 7);
+        Check.due("who would move", x.of(1, 8), 9998);
+        Check.tell(x, VOTES, "");
+        Check.due("without a law", x.votes(1, 0, 0), 9999);
+    }
+
+    /** Of town 8, at fork 4, each thing that is asked is another number. */
+    private static VotedRiver ofAllSorts() {
+        VotedRiver x = Check.river("fork to 4 and 4;sea;sea;sea;fork to 5 and 8 and 6;sea;"
+                + "town 0 needs 1 to 7;town 0 needs 1 to 8;town 1 needs 700 to 9;sea;");
+        x.town(8, 0, 9000);
+        Check.tell(x, VOTES, "vote heads when arm = 2 and fork = 4; vote 0;");
+        Check.tell(x, MOVES, "move 0;");
+        x.set(0, 999);
+        x.days(2);
+        x.set(0, 500);
+        x.days(3);
+        Check.tell(x, VOTES, "vote 0;");
+        x.days(1);
+        x.town(8, 2, 7);
+        x.town(8, 3, 160);
+        return x;
+    }
+
+    private static void eachIsAskedAlone() {
+        VotedRiver x = ofAllSorts();
+        Check.holds("Term 2", "Of VOTES: heads | dry | got | need | far | arm | won | twice | day | fork");
+        String[] votes = {"heads", "dry", "got", "need", "far", "arm", "won", "twice", "day", "fork"};
+        int[] voted = {9000, 4, 498, 700, 3, 2, 5, 1, 6, 4};
+        for (int i = 0; i < votes.length; i++) {
+            Check.tell(x, VOTES, "vote " + votes[i] + ";");
+            Check.due(votes[i], x.votes(8, 4, 2), voted[i]);
+        }
+        Check.holds("Term 2", "Of MOVES: heads | dry | got | need | dams | day | town");
+        String[] moves = {"heads", "dry", "got", "need", "dams", "day", "town"};
+        int[] moved = {9000, 4, 498, 700, 7, 6, 8};
+        for (int i = 0; i < moves.length; i++) {
+            Check.tell(x, MOVES, "move " + moves[i] + ";");
+            Check.due(moves[i], x.of(8, 8), moved[i]);
+        }
     }
 
     private static void behindAnArm() {

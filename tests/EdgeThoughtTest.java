@@ -7,6 +7,7 @@ public final class EdgeThoughtTest {
     public static void main(String[] args) {
         laterByDays();
         laterIsWhatDaysBring();
+        laterFromAllThatIs();
         laterOfAnotherWhat();
         laterOfNoTown();
         noDraws();
@@ -58,6 +59,22 @@ public final class EdgeThoughtTest {
                 Check.due("of(" + (1 + i / 8) + ", " + i % 8 + ") behind " + n + " days", x.of(1 + i / 8, i % 8), later[i]);
             }
         }
+    }
+
+    private static void laterFromAllThatIs() {
+        Check.holds("Term 4", "LATER by n DAYS (DEFEATS go on from what they are)");
+        VotedRiver x = Check.river(PAIR);
+        Check.tell(x, Check.MOVES, "move 0;");
+        x.days(9);
+        Check.due("defeats now", x.later(0, 2, 6), 9);
+        Check.due("dams now", x.later(0, 2, 2), 0);
+        Check.due("defeats by 1", x.later(1, 2, 6), 0);
+        Check.due("dams by 1", x.later(1, 2, 2), 1);
+        Check.due("defeats by 2", x.later(2, 2, 6), 1);
+        Check.due("defeats by 11", x.later(11, 2, 6), 0);
+        Check.due("dams by 11", x.later(11, 2, 2), 2);
+        Check.due("dry by 1", x.later(1, 2, 5), 10);
+        Check.due("defeats stay", x.of(2, 6), 9);
     }
 
     private static void laterOfAnotherWhat() {
